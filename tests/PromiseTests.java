@@ -179,6 +179,9 @@ public final class PromiseTests {
         due("accounts", m.coinsByAccounts(), 11);
         due("coins of cow", m.coinsOf(1), 1);
         due("coins of hen", m.coinsOf(2), 0);
+        due("the later heaps keep their words and owners", m.staleCoins(), 0);
+        due("and their coins", m.melt(0, 4), 6);
+        m.undo();
         m.undo();
         due("undone", m.coinsByAccounts(), 61);
         m.dropIrregular();
@@ -450,7 +453,7 @@ public final class PromiseTests {
         due("restore is undone", m.nouns(), 2);
         m.restoreSnapshot();
         due("restore keeps the snapshot", m.restoreSnapshot(), 1);
-        while (m.recordedStates() > 0) {
+        for (int i = 0; i < 4; i++) {
             m.undo();
         }
         m.restoreSnapshot();

@@ -493,11 +493,14 @@ public final class PluralMint {
             count = 0;
         }
 
-        void add(Word word) {
-            if (!isFull()) {
-                count++;
-                put(count - 1, word);
+        /** Answers false, and adds nothing, if there is no room. */
+        boolean add(Word word) {
+            if (isFull()) {
+                return false;
             }
+            count++;
+            put(count - 1, word);
+            return true;
         }
 
         void put(int row, Word word) {
@@ -596,17 +599,14 @@ public final class PluralMint {
             return endings.count();
         }
 
-        boolean isFull() {
-            return endings.isFull();
-        }
-
-        void add(Word ending, Word addition, int condition) {
+        /** Answers false, and adds nothing, if there is no room. */
+        boolean add(Word ending, Word addition, int condition) {
             int die = count();
-            if (die >= 0 && die < conditions.length) {
-                endings.add(ending);
-                additions.add(addition);
-                conditions[die] = condition;
+            if (die < 0 || die >= conditions.length) {
+                return false;
             }
+            conditions[die] = condition;
+            return endings.add(ending) && additions.add(addition);
         }
 
         void remove(int die) {
@@ -801,38 +801,16 @@ public final class PluralMint {
         /** Carries out an order; answers false, and changes nothing, if it is impossible. */
         boolean accept(Order order) {
             if (order.kind == Order.DIE) {
-                return acceptDie(order);
+                return dies.add(order.first, order.second, order.condition);
             }
-            return order.kind == Order.IRREGULAR ? acceptIrregular(order) : acceptNoun(order);
-        }
-
-        private boolean acceptNoun(Order order) {
-            if (nouns.isFull() || nouns.find(order.first) != NONE) {
-                return false;
+            if (order.kind == Order.NOUN) {
+                return nouns.find(order.first) == NONE && nouns.add(order.first);
             }
-            nouns.add(order.first);
-            return true;
-        }
-
-        private boolean acceptIrregular(Order order) {
             int row = irregularWords.find(order.first);
-            if (row != NONE) {
-                irregularPlurals.put(row, order.second);
-                return true;
+            if (row == NONE) {
+                return irregularWords.add(order.first) && irregularPlurals.add(order.second);
             }
-            if (irregularWords.isFull()) {
-                return false;
-            }
-            irregularWords.add(order.first);
-            irregularPlurals.add(order.second);
-            return true;
-        }
-
-        private boolean acceptDie(Order order) {
-            if (dies.isFull()) {
-                return false;
-            }
-            dies.add(order.first, order.second, order.condition);
+            irregularPlurals.put(row, order.second);
             return true;
         }
 
