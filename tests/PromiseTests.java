@@ -2,18 +2,7 @@ import java.util.ArrayList;
 import java.util.List;
 
 /** Tests of each promise with answers written out by hand: ordinary inputs, edges and wrong inputs. */
-public final class PromiseTests {
-    private static final Class<?> INDEX = IndexOutOfBoundsException.class;
-    private static final Class<?> ARGUMENT = IllegalArgumentException.class;
-    private static final Class<?> STATE = IllegalStateException.class;
-
-    private static int wrong = 0;
-    private static int checked = 0;
-
-    private interface Call {
-        void run();
-    }
-
+public final class PromiseTests extends MintChecks {
     public static void main(String[] args) {
         newObject();
         strike();
@@ -55,10 +44,7 @@ public final class PromiseTests {
         everyActionRecordsOneState();
         throwingCallsChangeNothing();
         objectsAreApart();
-        System.out.println(checked + " checks, " + wrong + " wrong");
-        if (wrong != 0) {
-            System.exit(1);
-        }
+        finish();
     }
 
     // ---- promise 1
@@ -871,113 +857,5 @@ public final class PromiseTests {
         due("dies of another", n.dies(), 1);
         m.takeSnapshot();
         throwsDue("the snapshot of another", STATE, n::restoreSnapshot);
-    }
-
-    // ---- what the tests share
-
-    private static void put(PluralMint m, String text) {
-        for (char sign : text.toCharArray()) {
-            m.type(sign);
-        }
-    }
-
-    private static void write(PluralMint m, String text) {
-        m.clearText();
-        put(m, text);
-    }
-
-    private static void carry(PluralMint m, String... texts) {
-        for (String text : texts) {
-            write(m, text);
-            m.carryOut();
-        }
-    }
-
-    private static PluralMint mint(String... texts) {
-        PluralMint m = new PluralMint();
-        carry(m, texts);
-        return m;
-    }
-
-    private static String plural(PluralMint m, int noun) {
-        StringBuilder letters = new StringBuilder();
-        for (int place = 0; place < m.pluralLetters(noun); place++) {
-            letters.append(m.pluralLetter(noun, place));
-        }
-        return letters.toString();
-    }
-
-    private static String picture(PluralMint m) {
-        StringBuilder all = new StringBuilder();
-        all.append("dies ").append(m.dies());
-        all.append(", irregulars ").append(m.irregulars()).append(", heaps ").append(m.heaps());
-        all.append(", coins ").append(m.coinsByHeaps()).append(' ').append(m.coinsByAccounts());
-        all.append(", stale ").append(m.staleCoins());
-        for (int noun = 0; noun < m.nouns(); noun++) {
-            all.append(", noun ");
-            for (int place = 0; place < m.lettersOf(noun); place++) {
-                all.append(m.countedLetter(noun, 1, place));
-            }
-            all.append(' ').append(plural(m, noun)).append(' ').append(m.coinsOf(noun));
-            all.append(' ').append(m.dieFor(noun)).append(' ').append(m.isIrregular(noun));
-        }
-        for (int die = 0; die < m.dies(); die++) {
-            all.append(", fits ").append(m.fitsOf(die));
-        }
-        return all.toString();
-    }
-
-    private static void errorDue(String text, int want) {
-        PluralMint m = new PluralMint();
-        put(m, text);
-        due("textError of '" + text + "'", m.textError(), want);
-    }
-
-    private static void impossibleDue(PluralMint m, String text, int want) {
-        write(m, text);
-        due("impossibleOrder of '" + text + "'", m.impossibleOrder(), want);
-    }
-
-    private static void recallDue(PluralMint m, String text, int want) {
-        write(m, text);
-        due("recallByStriking of '" + text + "'", m.recallByStriking(), want);
-        due("recallByReversing of '" + text + "'", m.recallByReversing(), want);
-    }
-
-    private static void possibleDue(PluralMint m, String text, int want) {
-        write(m, text);
-        due("possibleNouns of '" + text + "'", m.possibleNouns(), want);
-    }
-
-    private static void due(String what, long got, long want) {
-        checked++;
-        if (got != want) {
-            wrong++;
-            System.out.println(what + ": answered " + got + ", due is " + want);
-        }
-    }
-
-    private static void same(String what, String got, String want) {
-        checked++;
-        if (!got.equals(want)) {
-            wrong++;
-            System.out.println(what + ": answered " + got + ", due is " + want);
-        }
-    }
-
-    /** The call must throw exactly this class; with null, any of the three that the document names. */
-    private static void throwsDue(String what, Class<?> want, Call call) {
-        checked++;
-        Class<?> got = null;
-        try {
-            call.run();
-        } catch (RuntimeException e) {
-            got = e.getClass();
-        }
-        boolean isNamed = got == INDEX || got == ARGUMENT || got == STATE;
-        if (want == null ? !isNamed : got != want) {
-            wrong++;
-            System.out.println(what + ": threw " + got + ", due is " + want);
-        }
     }
 }
