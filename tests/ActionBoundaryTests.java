@@ -219,9 +219,10 @@ public final class ActionBoundaryTests extends MintChecks {
         m.dropDie(1);
         same("die 0 is left", plural(m, 1), "bs");
         says(heading, "This is an action.");
-        PluralMint acting = mint("b;yb", "*b>y;*!b>z");
-        isAction(acting, () -> acting.dropDie(1));
-        isAction(acting, () -> acting.dropDie(2));
+        PluralMint first = mint("b;yb", "*b>y;*!b>z");
+        isAction(first, () -> first.dropDie(1));
+        PluralMint last = mint("b;yb", "*b>y;*!b>z");
+        isAction(last, () -> last.dropDie(2));
         says(heading, "`die`: a die");
         PluralMint full = fullDies();
         refused("twelve dies", INDEX, full, (n, die) -> n.dropDie(die), 12, -1, LEAST, GREATEST);
@@ -233,9 +234,9 @@ public final class ActionBoundaryTests extends MintChecks {
         for (int left = 11; left >= 1; left--) {
             due("left", falling.dropDie(left), left);
         }
-        PluralMint first = fullDies();
+        PluralMint fromTheFirst = fullDies();
         for (int left = 11; left >= 1; left--) {
-            due("left of the first ones", first.dropDie(1), left);
+            due("left of the first ones", fromTheFirst.dropDie(1), left);
         }
     }
 

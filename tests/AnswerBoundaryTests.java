@@ -240,6 +240,7 @@ public final class AnswerBoundaryTests extends MintChecks {
         due("a plural that is another noun", mint("a;as").ambiguousNouns(), 0);
         due("the plural of itself", mint("a;b", "a=a").ambiguousNouns(), 0);
         due("plurals that begin alike", mint("a;b", "a=x;b=xx").ambiguousNouns(), 0);
+        due("what die 0 would make of no letters", mint("a", "a=s").ambiguousNouns(), 0);
         PluralMint all = fullBook();
         due("of twenty, none", all.ambiguousNouns(), 0);
         carry(all, "a=t;b=t;c=t;d=t;e=t;f=t;g=t;h=t;i=t;j=t");
@@ -268,6 +269,7 @@ public final class AnswerBoundaryTests extends MintChecks {
         due("the first", recall(full, "as"), 0);
         due("the last", recall(full, "ts"), 19);
         due("a text of one letter", recall(mint("b", "b=a"), "a"), 0);
+        due("what die 0 would make of no letters", recall(mint("b", "b=s"), "s"), 0);
         due("a text of twelve letters", recall(mint("abcdefghijk"), "abcdefghijks"), 0);
         says(heading, "NONE if there is none.");
         due("in an empty book", recall(new PluralMint(), "as"), NONE);
@@ -313,6 +315,7 @@ public final class AnswerBoundaryTests extends MintChecks {
         PluralMint book = fullBook();
         due("the first", reversed(book, "as"), 0);
         due("the last", reversed(book, "ts"), 19);
+        due("what die 0 would make of no letters", reversed(mint("b", "b=s"), "s"), 0);
         says(heading, "NONE if there is none.");
         due("in an empty book", reversed(new PluralMint(), "as"), NONE);
         due("in a full book", reversed(book, "us"), NONE);

@@ -42,7 +42,6 @@ public final class PromiseTests extends MintChecks {
         coinsByHeapsAndAccounts();
         recordedStates();
         everyActionRecordsOneState();
-        throwingCallsChangeNothing();
         objectsAreApart();
         finish();
     }
@@ -828,26 +827,6 @@ public final class PromiseTests extends MintChecks {
         m.recallByReversing();
         m.possibleNouns();
         due("answers record nothing", m.recordedStates(), 2);
-    }
-
-    private static void throwingCallsChangeNothing() {
-        PluralMint m = mint("cat;cow;*w>wx;cow=kine", "cow=kina");
-        m.strike(0, 3);
-        m.strike(1, 4);
-        m.undo();
-        write(m, "dog;cat");
-        String before = picture(m);
-        int recorded = m.recordedStates();
-        Call[] calls = {() -> m.strike(2, 1), () -> m.strike(0, 0), () -> m.melt(0, 4), () -> m.melt(-1, 1),
-            () -> m.melt(0, 100), () -> m.dropDie(0), () -> m.dropDie(2), m::carryOut, m::restoreSnapshot,
-            m::recallByStriking, m::recallByReversing, m::possibleNouns, () -> m.pluralLetter(0, 9),
-            () -> m.countedLetter(0, -1, 0), () -> m.fitsOf(9), () -> m.dieFor(9)};
-        for (int i = 0; i < calls.length; i++) {
-            throwsDue("call " + i, null, calls[i]);
-            same("call " + i + " changes nothing", picture(m), before);
-            due("call " + i + " records nothing", m.recordedStates(), recorded);
-        }
-        due("the text stays", m.clearText(), 7);
     }
 
     private static void objectsAreApart() {

@@ -506,6 +506,13 @@ public final class TermsBoundaryTests extends MintChecks {
         due("one of the youngest", m.melt(1, 1), 3);
         due("all of it", m.melt(1, 3), 0);
         due("an older heap of another noun", m.coinsOf(0), 5);
+        PluralMint n = mint("a");
+        n.strike(0, 1);
+        carry(n, "*>x");
+        n.strike(0, 1);
+        n.dropDie(1);
+        n.strike(0, 1);
+        same("a heap that grows is as old as it was", agesOfHeaps(n), "2/1 1/1 0/0 ");
     }
 
     private static void heapsWithoutCoins() {

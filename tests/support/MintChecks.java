@@ -7,6 +7,9 @@ abstract class MintChecks {
     static final int LEAST = Integer.MIN_VALUE;
     static final int GREATEST = Integer.MAX_VALUE;
 
+    /** One fault can make thousands of checks wrong, which would hide the first ones. */
+    private static final int MOST_TOLD = 100;
+
     private static int wrong = 0;
     private static int checked = 0;
     private static String sentence = "";
@@ -112,7 +115,9 @@ abstract class MintChecks {
 
     private static void fail(String told) {
         wrong++;
-        System.out.println(sentence + told);
+        if (wrong <= MOST_TOLD) {
+            System.out.println(sentence + told);
+        }
     }
 
     private static Class<?> thrownBy(Call call) {
