@@ -534,6 +534,17 @@ public final class TermsBoundaryTests extends MintChecks {
         carry(m, "*>x");
         m.meltStale();
         due("gone by meltStale", m.heaps(), 0);
+        PluralMint full = fullHeaps();
+        full.melt(0, 1);
+        due("one of thirty is gone", full.heaps(), 29);
+        for (int noun = 0; noun < 20; noun++) {
+            due("coins of noun " + noun, full.coinsOf(noun), noun == 0 ? 2 : noun < 10 ? 3 : 1);
+        }
+        due("coins of all", full.coinsByHeaps(), 39);
+        due("stale ones", full.staleCoins(), 19);
+        throwsDue("more than the last heap has", STATE, () -> full.melt(9, 4));
+        due("all of the last heap", full.melt(9, 3), 0);
+        due("two more are gone", full.heaps(), 27);
     }
 
     // ---- orders
